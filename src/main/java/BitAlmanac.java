@@ -17,15 +17,22 @@ public final class BitAlmanac {
     private static final int PLAIN = 1, FORKED = 2, FOLDED = 4, SPLIT = 5, DRAFT = 6, BARE_ROW = 7;
     private static final int EITHER = 0, BOTH = 1, FIRST_ONLY = 2;
 
-    private final Thing[] places = new Thing[PLACES];
-    private final Tape reel = new Tape();
-    private final Witness shown = new Witness();
-    private final Witness asked = new Witness();
-    private final Binder binder = new Binder();
-    private final Listing pending = new Listing(MOST_NAMES);
-    private int valueRefusal = 0;
+    private final Thing[] places;
+    private final Tape reel;
+    private final Witness shown;
+    private final Witness asked;
+    private final Binder binder;
+    private final Listing pending;
+    private int valueRefusal;
 
     public BitAlmanac() {
+        places = new Thing[PLACES];
+        reel = new Tape();
+        shown = new Witness();
+        asked = new Witness();
+        binder = new Binder();
+        pending = new Listing(MOST_NAMES);
+        valueRefusal = 0;
     }
 
     // ---- the tape
@@ -321,15 +328,16 @@ public final class BitAlmanac {
     }
 
     public int flip(int p, int i, boolean one) {
-        if (!(thingAt(p) instanceof BareRow bare)) {
+        Row row = bareRowAt(p);
+        if (row == null) {
             return refusalAt(p);
         }
-        if (!bare.row.hasBit(i)) {
+        if (!row.hasBit(i)) {
             return BAD;
         }
-        int was = bare.row.bitAt(i);
-        bare.row.write(i, one);
-        bare.row.fillTables();
+        int was = row.bitAt(i);
+        row.write(i, one);
+        row.fillTables();
         return was;
     }
 
@@ -369,8 +377,11 @@ public final class BitAlmanac {
             return BAD;
         }
         boolean wasLost = which == 0 ? row.lostA : row.lostB;
-        row.lostA |= which == 0;
-        row.lostB |= which == 1;
+        if (which == 0) {
+            row.lostA = true;
+        } else {
+            row.lostB = true;
+        }
         return wasLost ? 0 : 1;
     }
 
@@ -483,11 +494,17 @@ public final class BitAlmanac {
     }
 
     private Draft draftAt(int p) {
-        return thingAt(p) instanceof Draft draft ? draft : null;
+        if (thingAt(p) instanceof Draft draft) {
+            return draft;
+        }
+        return null;
     }
 
     private Book bookAt(int p) {
-        return thingAt(p) instanceof Book book ? book : null;
+        if (thingAt(p) instanceof Book book) {
+            return book;
+        }
+        return null;
     }
 
     private Book forkedAt(int p) {
@@ -495,13 +512,17 @@ public final class BitAlmanac {
         return book != null && book.kind == FORKED ? book : null;
     }
 
+    private Row bareRowAt(int p) {
+        if (thingAt(p) instanceof BareRow bare) {
+            return bare.row;
+        }
+        return null;
+    }
+
     /** Null for a PLAIN book too: it has no row, and is refused like any other thing without one. */
     private Row rowAt(int p) {
-        Thing thing = thingAt(p);
-        if (thing instanceof Book book) {
-            return book.row;
-        }
-        return thing instanceof BareRow bare ? bare.row : null;
+        Book book = bookAt(p);
+        return book == null ? bareRowAt(p) : book.row;
     }
 
     /** Why the place has not the thing that an act is for. */

@@ -9,9 +9,12 @@ public final class BitsTest {
         }
         flip();
         loseAndMend();
+        mendAfterFlips();
         forkedRow();
+        largestForkedRow();
         pairedRow();
         splitRow();
+        largestSplitRow();
         aboutKinds();
         aboutFolded();
         aboutWidth();
@@ -137,6 +140,38 @@ public final class BitsTest {
         }
     }
 
+    private static void mendAfterFlips() {
+        for (int which = 0; which <= 2; which++) {
+            BitAlmanac x = new BitAlmanac();
+            x.row(0, 2000);
+            x.flip(0, 3, true);
+            x.lose(0, which % 2);
+            x.lose(0, which == 2 ? 1 : which);
+            for (int i = 0; i < 2000; i += 45) {
+                x.flip(0, i, true);
+            }
+            x.flip(0, 3, false);
+            due.is("mend", x.mend(0), which == 2 ? 2 : 1);
+            ranksAre(x, 0);
+        }
+    }
+
+    /** Every 16th rank, beside the bits that lie ahead. */
+    private static void ranksAre(BitAlmanac x, int p) {
+        String bits = Due.bits(x, p);
+        int ones = 0;
+        for (int i = 0; i < bits.length(); i++) {
+            if (i % 16 == 0) {
+                due.is("rank(" + i + ")", x.rank(p, i), ones);
+            }
+            if (bits.charAt(i) == '1') {
+                due.is("select(" + ones + ")", x.select(p, ones), i);
+                ones++;
+            }
+        }
+        due.is("rank of the end", x.rank(p, bits.length()), ones);
+    }
+
     private static void forkedRow() {
         BitAlmanac x = new BitAlmanac();
         Due.book(x, 0, 2, "ab", "abc", "b", "bxy", "bz");
@@ -148,6 +183,24 @@ public final class BitsTest {
         due.is("no select(7)", x.select(0, 7), BitAlmanac.BAD);
         Due.book(x, 0, 2, "abcdefghijklmnopqrstuvwx");
         due.isText("a single name", Due.bits(x, 0), "10".repeat(24) + "0");
+    }
+
+    /** 100 names of 24 bytes that have no beginning in common: there can be no more nodes. */
+    private static void largestForkedRow() {
+        BitAlmanac x = new BitAlmanac();
+        String[] names = new String[100];
+        for (int i = 0; i < 100; i++) {
+            names[i] = String.valueOf((char) (100 + i)).repeat(24);
+        }
+        Due.book(x, 0, 2, names);
+        due.is("edges", x.about(0, 2), 2400);
+        due.is("bytes of edges", x.about(0, 3), 2400);
+        due.is("ends", x.about(0, 4), 100);
+        due.is("table numbers", x.about(0, 7), 10 + 76);
+        due.isText("the row", Due.bits(x, 0), "1".repeat(100) + "0" + "10".repeat(2300) + "0".repeat(100));
+        ranksAre(x, 0);
+        due.is("witness", Due.tape(x, names[99]).witness(0), 1);
+        due.is("the last node", x.told(73), 2400);
     }
 
     private static void pairedRow() {
@@ -177,6 +230,23 @@ public final class BitsTest {
         due.is("low bits", x.about(0, 5), 63);
         Due.book(x, 0, 5, "\u0041aaaaaaa", "\u00c0aaaaaaa", "\u0001aaaaaaa");
         due.isText("three names: h is 2", Due.bits(x, 0), "10" + "10" + "0" + "10");
+    }
+
+    private static void largestSplitRow() {
+        BitAlmanac x = new BitAlmanac();
+        String[] names = new String[100];
+        for (int i = 0; i < 100; i++) {
+            names[i] = (char) (1 + 2 * i) + "1234567";
+        }
+        Due.book(x, 0, 5, names);
+        // h is 7: name i has the high part i
+        due.isText("the row", Due.bits(x, 0), "10".repeat(100) + "0".repeat(28));
+        due.is("low bits", x.about(0, 5), 5700);
+        ranksAre(x, 0);
+        Due.book(x, 0, 5, java.util.Arrays.copyOf(names, 63));
+        due.is("63 names: h is 6", x.about(0, 1), 63 + 64);
+        Due.book(x, 0, 5, java.util.Arrays.copyOf(names, 64));
+        due.is("64 names: h is 7", x.about(0, 1), 64 + 128);
     }
 
     private static void aboutIs(BitAlmanac x, int... want) {
