@@ -1012,7 +1012,7 @@ public final class BitAlmanac {
             }
             nodes = 0;
             addNode(0, 0, 0);
-            for (int node = 0; node < nodes; node++) {
+            for (int node = 0; node < nodes && node < MOST_NODES; node++) {
                 int before = nodes;
                 addBelow(list, node, byteByByte);
                 degree[node] = nodes - before;

@@ -17,61 +17,61 @@ public final class DraftsTest {
     }
 
     private static void put() {
-        BitAlmanac x = new BitAlmanac();
-        due.is("put beyond", Due.tape(x, "a").put(10, 1), BitAlmanac.BEYOND);
+        Shelf x = new Shelf();
+        due.is("put beyond", x.taped("a").put(10, 1), BitAlmanac.BEYOND);
         due.is("put beyond", x.put(-1, 1), BitAlmanac.BEYOND);
         due.is("put to nothing", x.put(0, 1), BitAlmanac.NOTHING);
         x.row(1, 5);
         due.is("put to a row", x.put(1, 1), BitAlmanac.OTHER);
-        due.isText("the tape stays", Due.read(x), "a");
+        due.isText("the tape stays", x.readTape(), "a");
         x.draft(0);
         due.is("put a", x.put(0, 7), 1);
         due.is("the tape is empty", x.tape(0), BitAlmanac.NONE);
         due.is("put an empty tape", x.put(0, 7), BitAlmanac.BAD);
-        due.is("put a again", Due.tape(x, "a").put(0, -8), 0);
+        due.is("put a again", x.taped("a").put(0, -8), 0);
         due.is("it is there once", x.count(0), 1);
         x.seal(0, 2, 1);
-        due.is("put to a book", Due.tape(x, "b").put(2, 1), BitAlmanac.OTHER);
+        due.is("put to a book", x.taped("b").put(2, 1), BitAlmanac.OTHER);
         due.is("its value is the later one", x.value(2, 0), -8);
-        due.is("put 24 bytes", Due.tape(x, LONGEST).put(0, 1), 1);
-        due.is("put 25 bytes", Due.tape(x, LONGEST + "y").put(0, 1), BitAlmanac.BAD);
+        due.is("put 24 bytes", x.taped(LONGEST).put(0, 1), 1);
+        due.is("put 25 bytes", x.taped(LONGEST + "y").put(0, 1), BitAlmanac.BAD);
         due.is("the tape is empty all the same", x.tape(0), BitAlmanac.NONE);
-        due.is("put a byte 0 within", Due.tape(x, "a\0b").put(0, 1), BitAlmanac.BAD);
-        due.is("put a byte 0 ahead", Due.tape(x, "\0b").put(0, 1), BitAlmanac.BAD);
-        due.is("put a byte 0 behind", Due.tape(x, "b\0").put(0, 1), BitAlmanac.BAD);
-        due.is("put bytes 255", Due.tape(x, "\u00ff\u00ff").put(0, 1), 1);
+        due.is("put a byte 0 within", x.taped("a\0b").put(0, 1), BitAlmanac.BAD);
+        due.is("put a byte 0 ahead", x.taped("\0b").put(0, 1), BitAlmanac.BAD);
+        due.is("put a byte 0 behind", x.taped("b\0").put(0, 1), BitAlmanac.BAD);
+        due.is("put bytes 255", x.taped("\u00ff\u00ff").put(0, 1), 1);
         due.is("names", x.count(0), 3);
     }
 
     private static void putTillFull() {
-        BitAlmanac x = new BitAlmanac();
+        Shelf x = new Shelf();
         x.draft(0);
         for (int i = 1; i <= 100; i++) {
-            due.is("put name " + i, Due.tape(x, "n" + (char) i).put(0, i), 1);
+            due.is("put name " + i, x.taped("n" + (char) i).put(0, i), 1);
         }
-        due.is("put the 101st", Due.tape(x, "o").put(0, 0), BitAlmanac.FULL);
+        due.is("put the 101st", x.taped("o").put(0, 0), BitAlmanac.FULL);
         due.is("the tape is empty", x.tape(0), BitAlmanac.NONE);
-        due.is("a tape that is no name", Due.tape(x, "").put(0, 0), BitAlmanac.BAD);
-        due.is("put one that is there", Due.tape(x, "n" + (char) 50).put(0, -1), 0);
-        due.is("take one out", Due.tape(x, "n" + (char) 1).unput(0), 1);
-        due.is("and put again", Due.tape(x, "o").put(0, 0), 1);
+        due.is("a tape that is no name", x.taped("").put(0, 0), BitAlmanac.BAD);
+        due.is("put one that is there", x.taped("n" + (char) 50).put(0, -1), 0);
+        due.is("take one out", x.taped("n" + (char) 1).unput(0), 1);
+        due.is("and put again", x.taped("o").put(0, 0), 1);
         due.is("seal 100", x.seal(0, 1, 2), 100);
     }
 
     private static void unput() {
-        BitAlmanac x = new BitAlmanac();
-        due.is("unput beyond", Due.tape(x, "a").unput(10), BitAlmanac.BEYOND);
+        Shelf x = new Shelf();
+        due.is("unput beyond", x.taped("a").unput(10), BitAlmanac.BEYOND);
         due.is("unput of nothing", x.unput(0), BitAlmanac.NOTHING);
-        Due.book(x, 1, 1, "a");
-        due.is("unput of a book", Due.tape(x, "a").unput(1), BitAlmanac.OTHER);
-        due.isText("the tape stays", Due.read(x), "a");
-        Due.draft(x, 0, "a", "ab", "b", "c");
-        due.is("unput ab", Due.tape(x, "ab").unput(0), 1);
+        x.bound(1, 1, "a");
+        due.is("unput of a book", x.taped("a").unput(1), BitAlmanac.OTHER);
+        due.isText("the tape stays", x.readTape(), "a");
+        x.drafted(0, "a", "ab", "b", "c");
+        due.is("unput ab", x.taped("ab").unput(0), 1);
         due.is("the tape is empty", x.tape(0), BitAlmanac.NONE);
-        due.is("unput ab again", Due.tape(x, "ab").unput(0), 0);
+        due.is("unput ab again", x.taped("ab").unput(0), 0);
         due.is("the tape is empty", x.tape(0), BitAlmanac.NONE);
         due.is("unput an empty tape", x.unput(0), BitAlmanac.BAD);
-        due.is("unput 25 bytes", Due.tape(x, LONGEST + "y").unput(0), BitAlmanac.BAD);
+        due.is("unput 25 bytes", x.taped(LONGEST + "y").unput(0), BitAlmanac.BAD);
         due.is("three are left", x.seal(0, 2, 1), 3);
         due.is("a", x.value(2, 0), 0);
         due.is("b", x.value(2, 1), 2);
@@ -79,8 +79,8 @@ public final class DraftsTest {
     }
 
     private static void seal() {
-        BitAlmanac x = new BitAlmanac();
-        Due.draft(x, 0, "b", "\u00e9", "abc", "a", "ab", "\u0001");
+        Shelf x = new Shelf();
+        x.drafted(0, "b", "\u00e9", "abc", "a", "ab", "\u0001");
         for (int kind = 1; kind <= 4; kind++) {
             due.is("seal", x.seal(0, kind, kind), 6);
             due.is("kind", x.kind(kind), kind);
@@ -88,25 +88,25 @@ public final class DraftsTest {
             String values = "";
             for (int k = 0; k < 6; k++) {
                 x.name(kind, k);
-                names += Due.read(x) + " ";
+                names += x.readTape() + " ";
                 values += x.value(kind, k) + " ";
             }
             due.isText("names in order", names, "\u0001 a ab abc b \u00e9 ");
             due.isText("values", values, "5 3 4 2 0 1 ");
         }
-        Due.tape(x, "zz").put(0, 1);
+        x.taped("zz").put(0, 1);
         due.is("a book is sealed from later names", x.count(2), 6);
-        Due.tape(x, "a").put(0, 99);
+        x.taped("a").put(0, 99);
         due.is("and from later values", x.value(2, 1), 3);
         due.is("seal over the draft", x.seal(0, 0, 2), 7);
         due.is("the draft is gone there", x.kind(0), 2);
-        Due.draft(x, 5, "abcdefgh", "\u00ff\u00ff\u00ff\u00ff\u00ff\u00ff\u00ff\u00ff");
+        x.drafted(5, "abcdefgh", "\u00ff\u00ff\u00ff\u00ff\u00ff\u00ff\u00ff\u00ff");
         due.is("seal SPLIT", x.seal(5, 6, 5), 2);
         due.is("of kind", x.kind(6), 5);
     }
 
     private static void sealRefused() {
-        BitAlmanac x = new BitAlmanac();
+        Shelf x = new Shelf();
         x.draft(0);
         x.row(1, 7);
         due.is("seal beyond p", x.seal(10, 0, 1), BitAlmanac.BEYOND);
@@ -116,11 +116,11 @@ public final class DraftsTest {
         due.is("seal a row", x.seal(1, 2, 9), BitAlmanac.OTHER);
         due.is("seal no names", x.seal(0, 1, 1), BitAlmanac.BAD);
         due.is("q stays", x.kind(1), 7);
-        Due.draft(x, 0, "abcdefgh", "abcdefg");
+        x.drafted(0, "abcdefgh", "abcdefg");
         due.is("seal kind 0", x.seal(0, 1, 0), BitAlmanac.BAD);
         due.is("seal kind 6", x.seal(0, 1, 6), BitAlmanac.BAD);
         due.is("seal SPLIT with 7 bytes", x.seal(0, 1, 5), BitAlmanac.BAD);
-        Due.draft(x, 0, "abcdefgh", "abcdefghi");
+        x.drafted(0, "abcdefgh", "abcdefghi");
         due.is("seal SPLIT with 9 bytes", x.seal(0, 1, 5), BitAlmanac.BAD);
         due.is("q stays", x.kind(1), 7);
         x.seal(0, 2, 2);
@@ -128,16 +128,16 @@ public final class DraftsTest {
     }
 
     private static void unseal() {
-        BitAlmanac x = new BitAlmanac();
-        Due.book(x, 0, 2, "b", "a", "ab");
+        Shelf x = new Shelf();
+        x.bound(0, 2, "b", "a", "ab");
         due.is("unseal beyond p", x.unseal(10, 1), BitAlmanac.BEYOND);
         due.is("unseal beyond q", x.unseal(0, 10), BitAlmanac.BEYOND);
         due.is("unseal nothing", x.unseal(5, 1), BitAlmanac.NOTHING);
         due.is("unseal", x.unseal(0, 1), 3);
         due.is("it is a draft", x.kind(1), 6);
         due.is("unseal a draft", x.unseal(1, 2), BitAlmanac.OTHER);
-        due.is("a name that is there", Due.tape(x, "ab").put(1, 9), 0);
-        due.is("a new name", Due.tape(x, "c").put(1, 9), 1);
+        due.is("a name that is there", x.taped("ab").put(1, 9), 0);
+        due.is("a new name", x.taped("c").put(1, 9), 1);
         due.is("the book stays", x.count(0), 3);
         due.is("and its values", x.value(0, 1), 2);
         x.seal(1, 2, 1);
@@ -151,46 +151,37 @@ public final class DraftsTest {
         due.is("unseal over itself", x.unseal(0, 0), 3);
         due.is("it is a draft", x.kind(0), 6);
         for (int i = 4; i <= 100; i++) {
-            due.is("name " + i + " has room", Due.tape(x, "m" + (char) i).put(0, 1), 1);
+            due.is("name " + i + " has room", x.taped("m" + (char) i).put(0, 1), 1);
         }
-        due.is("name 101 has none", Due.tape(x, "n").put(0, 1), BitAlmanac.FULL);
-    }
-
-    private static String listed(BitAlmanac x, int p) {
-        StringBuilder text = new StringBuilder();
-        for (int k = 0; k < x.count(p); k++) {
-            x.name(p, k);
-            text.append(Due.read(x)).append('=').append(x.value(p, k)).append(' ');
-        }
-        return text.toString();
+        due.is("name 101 has none", x.taped("n").put(0, 1), BitAlmanac.FULL);
     }
 
     private static void mergeNames() {
-        BitAlmanac x = new BitAlmanac();
-        Due.book(x, 0, 2, "b", "a", "ab", "z");
-        Due.book(x, 1, 1, "y", "ab", "c", "b", "aa");
+        Shelf x = new Shelf();
+        x.bound(0, 2, "b", "a", "ab", "z");
+        x.bound(1, 1, "y", "ab", "c", "b", "aa");
         due.is("merge either", x.merge(0, 1, 2, 0, 3), 7);
-        due.isText("either", listed(x, 2), "a=1 aa=4 ab=2 b=0 c=2 y=0 z=3 ");
+        due.isText("either", x.listed(2), "a=1 aa=4 ab=2 b=0 c=2 y=0 z=3");
         due.is("of kind", x.kind(2), 3);
         due.is("merge both", x.merge(0, 1, 2, 1, 4), 2);
-        due.isText("both", listed(x, 2), "ab=2 b=0 ");
+        due.isText("both", x.listed(2), "ab=2 b=0");
         due.is("of kind", x.kind(2), 4);
         due.is("merge the first's only", x.merge(0, 1, 2, 2, 1), 2);
-        due.isText("the first's only", listed(x, 2), "a=1 z=3 ");
+        due.isText("the first's only", x.listed(2), "a=1 z=3");
         due.is("the other way round", x.merge(1, 0, 2, 2, 2), 3);
-        due.isText("the second's only", listed(x, 2), "aa=4 c=2 y=0 ");
+        due.isText("the second's only", x.listed(2), "aa=4 c=2 y=0");
         due.is("with itself", x.merge(0, 0, 0, 1, 1), 4);
         due.is("over itself", x.kind(0), 1);
-        Due.book(x, 3, 1, "abcdefgh", "x");
-        Due.book(x, 4, 1, "x", "y");
+        x.bound(3, 1, "abcdefgh", "x");
+        x.bound(4, 1, "x", "y");
         due.is("merge to SPLIT", x.merge(3, 4, 5, 2, 5), 1);
         due.is("of kind", x.kind(5), 5);
     }
 
     private static void mergeRefused() {
-        BitAlmanac x = new BitAlmanac();
-        Due.book(x, 0, 2, "a");
-        Due.book(x, 1, 3, "b");
+        Shelf x = new Shelf();
+        x.bound(0, 2, "a");
+        x.bound(1, 3, "b");
         x.draft(2);
         x.row(3, 1);
         due.is("merge beyond p", x.merge(-1, 1, 4, 0, 1), BitAlmanac.BEYOND);
@@ -219,21 +210,21 @@ public final class DraftsTest {
     }
 
     private static void mergeFull() {
-        BitAlmanac x = new BitAlmanac();
+        Shelf x = new Shelf();
         x.draft(0);
         for (int i = 1; i <= 60; i++) {
-            Due.tape(x, "n" + (char) i).put(0, i);
+            x.fed("n" + (char) i).put(0, i);
         }
         x.seal(0, 1, 1);
         x.draft(0);
         for (int i = 21; i <= 100; i++) {
-            Due.tape(x, "n" + (char) i).put(0, -i);
+            x.fed("n" + (char) i).put(0, -i);
         }
         x.seal(0, 2, 2);
         due.is("just 100", x.merge(1, 2, 3, 0, 2), 100);
         due.is("the first's value", x.value(3, 59), 60);
         due.is("the second's value", x.value(3, 60), -61);
-        Due.tape(x, "o").put(0, 1);
+        x.taped("o").put(0, 1);
         x.seal(0, 2, 2);
         due.is("101", x.merge(1, 2, 3, 0, 2), BitAlmanac.FULL);
         due.is("101, SPLIT", x.merge(1, 2, 3, 0, 5), BitAlmanac.FULL);

@@ -1,7 +1,17 @@
-/** What the tests share: answers beside those that are due, and texts fed to and read from the tape. */
+import java.io.IOException;
+import java.io.UncheckedIOException;
+import java.nio.file.Files;
+import java.nio.file.Path;
+
+/** Answers beside those that are due, and the sentence of the document that each is due to. */
 final class Due {
+    static final Path DOCUMENT = Path.of("../shared/DOC.md");
+
     private final String test;
+    private String[] parts = null;
+    private String sentence = "";
     private int asked = 0;
+    private int askedOfSentence = 1;
     private int wrong = 0;
 
     Due(String test) {
@@ -9,18 +19,36 @@ final class Due {
     }
 
     void is(String call, long got, long want) {
-        asked++;
+        count();
         if (got != want) {
-            wrong++;
-            System.out.println(test + ": " + call + " answered " + got + ", due is " + want);
+            wrong(call + " answered " + got + ", due is " + want);
         }
     }
 
     void isText(String what, String got, String want) {
-        asked++;
+        count();
         if (!got.equals(want)) {
-            wrong++;
-            System.out.println(test + ": " + what + " is '" + got + "', due is '" + want + "'");
+            wrong(what + " is '" + got + "', due is '" + want + "'");
+        }
+    }
+
+    void isTrue(String what, boolean holds) {
+        count();
+        if (!holds) {
+            wrong("it does not hold that " + what);
+        }
+    }
+
+    /** What is asked from here on is due to this sentence of a promise (0: of what stands ahead of the promises). */
+    void sentence(int promise, String words) {
+        endSentence();
+        sentence = (promise == 0 ? "" : "promise " + promise + ": ") + "\"" + words + "\": ";
+        askedOfSentence = 0;
+        if (parts == null) {
+            parts = documentParts();
+        }
+        if (promise >= parts.length || !parts[promise].contains(words)) {
+            wrong("the document has no such words there");
         }
     }
 
@@ -29,57 +57,41 @@ final class Due {
     }
 
     void end() {
+        endSentence();
         System.out.println(test + ": " + asked + " answers, " + wrong + " of them not as due");
         if (wrong != 0 || asked == 0) {
             System.exit(1);
         }
     }
 
-    /** The tape becomes the text's characters, one byte each. */
-    static BitAlmanac tape(BitAlmanac x, String text) {
-        x.cut(0);
-        for (int i = 0; i < text.length(); i++) {
-            x.feed(text.charAt(i), 1);
-        }
-        return x;
-    }
-
-    static String read(BitAlmanac x) {
-        StringBuilder text = new StringBuilder();
-        for (int i = 0; x.tape(i) >= 0; i++) {
-            text.append((char) x.tape(i));
-        }
-        return text.toString();
-    }
-
-    /** A draft at the place with the names; the value of each is how many came before it. */
-    static void draft(BitAlmanac x, int p, String... names) {
-        x.draft(p);
-        for (int i = 0; i < names.length; i++) {
-            tape(x, names[i]).put(p, i);
+    private void endSentence() {
+        if (askedOfSentence == 0) {
+            wrong("nothing was asked");
         }
     }
 
-    /** A book of a kind at the place, by way of place 9. */
-    static void book(BitAlmanac x, int p, int kind, String... names) {
-        draft(x, 9, names);
-        x.seal(9, p, kind);
-        x.clear(9);
+    private void count() {
+        asked++;
+        askedOfSentence++;
     }
 
-    static String bits(BitAlmanac x, int p) {
-        StringBuilder text = new StringBuilder();
-        for (int i = 0; x.bit(p, i) >= 0; i++) {
-            text.append(x.bit(p, i));
-        }
-        return text.toString();
+    private void wrong(String what) {
+        wrong++;
+        System.out.println(test + ": " + sentence + what);
     }
 
-    static String witness(BitAlmanac x) {
-        StringBuilder text = new StringBuilder();
-        for (int i = 0; i < x.witnessed(); i++) {
-            text.append(i == 0 ? "" : " ").append(x.told(i));
+    /** What stands ahead of the promises, then each promise, without its heading; a blank between two words. */
+    static String[] documentParts() {
+        String text;
+        try {
+            text = Files.readString(DOCUMENT);
+        } catch (IOException e) {
+            throw new UncheckedIOException(e);
         }
-        return text.toString();
+        String[] found = text.split("## (Promise \\d+: [^\\n]*|Not promised)\\n");
+        for (int i = 0; i < found.length; i++) {
+            found[i] = found[i].replaceAll("\\s+", " ");
+        }
+        return java.util.Arrays.copyOf(found, found.length - 1);
     }
 }

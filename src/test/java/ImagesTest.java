@@ -13,30 +13,19 @@ public final class ImagesTest {
         due.end();
     }
 
-    /** Feeds the bytes, and behind them the one that makes the sum 0. */
-    private static void feedSummed(BitAlmanac x, int... bytes) {
-        int sum = 0;
-        x.cut(0);
-        for (int b : bytes) {
-            x.feed(b, 1);
-            sum += b;
-        }
-        x.feed(-sum, 1);
-    }
-
-    private static String tapeNumbers(BitAlmanac x) {
+    private static String tapeNumbers(Shelf x) {
         StringBuilder text = new StringBuilder();
-        for (int i = 0; x.tape(i) >= 0; i++) {
-            text.append(x.tape(i)).append(' ');
+        for (char b : x.readTape().toCharArray()) {
+            text.append((int) b).append(' ');
         }
         return text.toString();
     }
 
     private static void image() {
-        BitAlmanac x = new BitAlmanac();
+        Shelf x = new Shelf();
         x.draft(0);
-        Due.tape(x, "b").put(0, -2);
-        Due.tape(x, "ab").put(0, 258);
+        x.taped("b").put(0, -2);
+        x.taped("ab").put(0, 258);
         x.seal(0, 1, 3);
         x.feed(77, 1);
         due.is("image", x.image(1), 13);
@@ -46,11 +35,11 @@ public final class ImagesTest {
     }
 
     private static void imageRefused() {
-        BitAlmanac x = new BitAlmanac();
-        Due.book(x, 1, 2, "a");
+        Shelf x = new Shelf();
+        x.bound(1, 2, "a");
         x.draft(0);
         x.row(2, 1);
-        Due.tape(x, "q");
+        x.taped("q");
         due.is("image beyond", x.image(10), BitAlmanac.BEYOND);
         due.is("image beyond", x.image(-1), BitAlmanac.BEYOND);
         due.is("image of nothing", x.image(5), BitAlmanac.NOTHING);
@@ -58,46 +47,51 @@ public final class ImagesTest {
         due.is("image of a row", x.image(2), BitAlmanac.OTHER);
         x.lose(1, 0);
         due.is("image, table lost", x.image(1), BitAlmanac.MISSING);
-        due.isText("the tape stays", Due.read(x), "q");
+        due.isText("the tape stays", x.readTape(), "q");
+    }
+
+    private static Shelf eightyThree(String firstName) {
+        Shelf x = new Shelf();
+        x.draft(0);
+        x.fed(firstName).put(0, 1);
+        for (int i = 2; i <= 83; i++) {
+            x.fed((char) i + "123456789").put(0, 1);
+        }
+        x.seal(0, 1, 1);
+        return x;
     }
 
     private static void imageTillFull() {
-        BitAlmanac x = new BitAlmanac();
-        x.draft(0);
-        for (int i = 0; i < 83; i++) {
-            Due.tape(x, (char) (i + 1) + "123456789").put(0, 1);
-        }
-        x.seal(0, 1, 1);
+        Shelf x = eightyThree("\u0001123456789");
         due.is("83 names of 10 bytes", x.image(1), 1000);
         due.is("load it", x.load(2), 83);
-        Due.tape(x, "\u0001123456789").unput(0);
-        Due.tape(x, "\u00011234567890").put(0, 1);
-        x.seal(0, 1, 1);
-        Due.tape(x, "q");
+        x = eightyThree("\u00011234567890");
+        x.fed("q");
         due.is("one byte more", x.image(1), BitAlmanac.FULL);
-        due.isText("the tape stays", Due.read(x), "q");
+        due.isText("the tape stays", x.readTape(), "q");
         x.seal(0, 3, 2);
         x.lose(3, 1);
         due.is("a lost table comes ahead", x.image(3), BitAlmanac.MISSING);
     }
 
     private static void load() {
-        BitAlmanac x = new BitAlmanac();
-        feedSummed(x, 2, 2, 1, 97, 5, 2, 97, 98, 251, 1);
+        Shelf x = new Shelf();
+        x.fedWithSum(2, 2, 1, 97, 5, 2, 97, 98, 251, 1);
         due.is("load", x.load(4), 2);
         due.is("the tape is empty", x.tape(0), BitAlmanac.NONE);
         due.is("kind", x.kind(4), 2);
         due.is("value 0", x.value(4, 0), 5);
         due.is("value 1", x.value(4, 1), -5);
         due.is("name 1", x.name(4, 1), 2);
-        due.isText("its bytes", Due.read(x), "ab");
+        due.isText("its bytes", x.readTape(), "ab");
         due.is("no table is lost", x.rank(4, 5), 2);
         x.lose(4, 0);
         x.share(4, 5);
-        feedSummed(Due.tape(x, ""), 1, 1, 1, 97, 5, 1);
+        x.cut(0);
+        x.fedWithSum(1, 1, 1, 97, 5, 1);
         due.is("load over a book", x.load(4), 1);
         due.is("it is held elsewhere", x.kind(5), 2);
-        feedSummed(x, 1, 1, 1, 97, 5, 1);
+        x.fedWithSum(1, 1, 1, 97, 5, 1);
         due.is("load beyond", x.load(10), BitAlmanac.BEYOND);
         due.is("load beyond", x.load(-1), BitAlmanac.BEYOND);
         due.is("the tape stays", x.load(0), 1);
@@ -107,10 +101,10 @@ public final class ImagesTest {
         long[] values = {127, -129, 40000, Long.MIN_VALUE + 1};
         for (int kind = 1; kind <= 5; kind++) {
             for (long value : values) {
-                BitAlmanac x = new BitAlmanac();
+                Shelf x = new Shelf();
                 x.draft(0);
-                Due.tape(x, "abcdefgh").put(0, value);
-                Due.tape(x, "abcdefgi").put(0, -1);
+                x.taped("abcdefgh").put(0, value);
+                x.taped("abcdefgi").put(0, -1);
                 x.seal(0, 1, kind);
                 x.image(1);
                 String bytes = tapeNumbers(x);
@@ -118,7 +112,7 @@ public final class ImagesTest {
                 due.is("kind", x.kind(2), kind);
                 due.is("value", x.value(2, 0), value);
                 due.is("value", x.value(2, 1), -1);
-                due.isText("row", Due.bits(x, 2), Due.bits(x, 1));
+                due.isText("row", x.bookBits(2), x.bookBits(1));
                 x.image(2);
                 due.isText("its image", tapeNumbers(x), bytes);
             }
@@ -126,9 +120,9 @@ public final class ImagesTest {
     }
 
     private static void badIs(String why, int... bytes) {
-        BitAlmanac x = new BitAlmanac();
+        Shelf x = new Shelf();
         x.row(3, 8);
-        feedSummed(x, bytes);
+        x.fedWithSum(bytes);
         due.is(why, x.load(3), BitAlmanac.BAD);
         due.is("the tape is empty", x.tape(0), BitAlmanac.NONE);
         due.is("the place stays", x.kind(3), 7);
@@ -176,14 +170,14 @@ public final class ImagesTest {
 
     /** A single byte that is another one breaks the sum, whatever it says. */
     private static void loadEveryChangedByte() {
-        BitAlmanac x = new BitAlmanac();
-        Due.book(x, 0, 4, "ab", "b");
+        Shelf x = new Shelf();
+        x.bound(0, 4, "ab", "b");
         int length = x.image(0);
         for (int i = 0; i < length; i++) {
             x.image(0);
-            String text = Due.read(x);
+            String text = x.readTape();
             char other = (char) ((text.charAt(i) + 1) % 256);
-            Due.tape(x, text.substring(0, i) + other + text.substring(i + 1));
+            x.taped(text.substring(0, i) + other + text.substring(i + 1));
             due.is("load with byte " + i + " changed", x.load(1), BitAlmanac.BAD);
         }
         x.image(0);

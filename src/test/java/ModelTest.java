@@ -2,16 +2,15 @@
 public final class ModelTest {
     private static final Due due = new Due("ModelTest");
     private static final int RUNS = 2500;
-    private static final int CALLS = 512;
+    private static final int LOOKING = 190; // calls that the look at all things needs at most
     private static final String[] ALPHABETS = {"ab", "abc", "\u0001\u007f\u0080\u00ff", "abcdefghijklmnopqrstuvwxyz"};
 
-    private final BitAlmanac x = new BitAlmanac();
+    private final Shelf x = new Shelf();
     private final Model m = new Model();
     private final String alphabet;
     private final boolean eights;
     private final int longest;
     private long seed;
-    private int calls = 0;
 
     private ModelTest(int run) {
         seed = run * 2654435761L + 12345;
@@ -22,7 +21,7 @@ public final class ModelTest {
 
     public static void main(String[] args) {
         for (int run = 0; run < RUNS && due.wrongSoFar() < 20; run++) {
-            new ModelTest(run).play(run % 5 == 0);
+            new ModelTest(run).play(run % 5 == 0, run % 2 == 0);
         }
         due.end();
     }
@@ -42,14 +41,14 @@ public final class ModelTest {
     }
 
     private void same(String call, long got, long want) {
-        calls++;
         due.is(call, got, want);
     }
 
-    private void play(boolean fill) {
+    /** Every other run looks at all things in the end, and has fewer calls before that. */
+    private void play(boolean fill, boolean look) {
         if (fill) {
             same("draft(0)", x.draft(0), m.draft(0));
-            while (calls < CALLS * 3 / 4) {
+            while (x.calls() < (look ? 300 : 400)) {
                 feedName();
                 put(0);
             }
@@ -57,7 +56,9 @@ public final class ModelTest {
                 same("seal", x.seal(0, q, q), m.seal(0, q, q));
             }
         }
-        while (calls < CALLS) {
+        // one turn makes ten calls at most
+        int most = Shelf.MOST_CALLS - 10 - (look ? LOOKING : 0);
+        while (x.calls() <= most) {
             int group = pick(20);
             if (group < 7) {
                 drafts();
@@ -73,7 +74,9 @@ public final class ModelTest {
                 placesAndTape();
             }
         }
-        lookAtAll();
+        if (look) {
+            lookAtAll();
+        }
     }
 
     private void feedName() {

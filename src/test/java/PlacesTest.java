@@ -15,7 +15,7 @@ public final class PlacesTest {
     }
 
     private static void beyond() {
-        BitAlmanac x = new BitAlmanac();
+        Shelf x = new Shelf();
         x.draft(0);
         for (int p : BEYOND_PLACES) {
             due.is("draft beyond", x.draft(p), BitAlmanac.BEYOND);
@@ -31,17 +31,17 @@ public final class PlacesTest {
     }
 
     private static void draft() {
-        BitAlmanac x = new BitAlmanac();
+        Shelf x = new Shelf();
         due.is("draft(9)", x.draft(9), 0);
         due.is("it is one", x.kind(9), 6);
         due.is("without names", x.count(9), 0);
-        Due.tape(x, "a").put(9, 1);
+        x.taped("a").put(9, 1);
         due.is("draft(9) again", x.draft(9), 0);
         due.is("without names again", x.count(9), 0);
     }
 
     private static void row() {
-        BitAlmanac x = new BitAlmanac();
+        Shelf x = new Shelf();
         due.is("row(0, 4000)", x.row(0, 4000), 4000);
         due.is("its last bit", x.bit(0, 3999), 0);
         due.is("no bit behind it", x.bit(0, 4000), BitAlmanac.BAD);
@@ -61,7 +61,7 @@ public final class PlacesTest {
     }
 
     private static void clear() {
-        BitAlmanac x = new BitAlmanac();
+        Shelf x = new Shelf();
         due.is("clear nothing", x.clear(0), 0);
         x.draft(0);
         due.is("clear a draft", x.clear(0), 6);
@@ -71,25 +71,25 @@ public final class PlacesTest {
         due.is("clear a row", x.clear(0), 7);
         due.is("the other place holds it still", x.kind(1), 7);
         for (int kind = 1; kind <= 5; kind++) {
-            Due.book(x, 0, kind, "abcdefgh");
+            x.bound(0, kind, "abcdefgh");
             due.is("clear a book", x.clear(0), kind);
             due.is("clear again", x.clear(0), 0);
         }
     }
 
     private static void share() {
-        BitAlmanac x = new BitAlmanac();
+        Shelf x = new Shelf();
         x.row(1, 3);
         due.is("share nothing", x.share(0, 1), BitAlmanac.NOTHING);
         due.is("refused: q stays", x.kind(1), 7);
         x.draft(0);
         due.is("share a draft", x.share(0, 1), 6);
-        Due.tape(x, "a").put(1, 5);
+        x.taped("a").put(1, 5);
         due.is("it is that very draft", x.count(0), 1);
         due.is("share a row", shareRow(x), 7);
         x.flip(3, 2, true);
         due.is("it is that very row", x.bit(2, 2), 1);
-        Due.book(x, 4, 3, "a", "b");
+        x.bound(4, 3, "a", "b");
         due.is("share a book", x.share(4, 5), 3);
         x.lose(5, 1);
         due.is("it is that very book", x.mend(4), 1);
@@ -97,16 +97,16 @@ public final class PlacesTest {
         due.is("it stays", x.kind(4), 3);
     }
 
-    private static int shareRow(BitAlmanac x) {
+    private static int shareRow(Shelf x) {
         x.row(2, 3);
         return x.share(2, 3);
     }
 
     private static void kind() {
-        BitAlmanac x = new BitAlmanac();
+        Shelf x = new Shelf();
         due.is("kind of nothing", x.kind(0), 0);
         for (int kind = 1; kind <= 5; kind++) {
-            Due.book(x, kind, kind, "abcdefgh");
+            x.bound(kind, kind, "abcdefgh");
             due.is("kind of a book", x.kind(kind), kind);
         }
         x.draft(6);
@@ -116,7 +116,7 @@ public final class PlacesTest {
     }
 
     private static void same() {
-        BitAlmanac x = new BitAlmanac();
+        Shelf x = new Shelf();
         due.is("same of nothing", x.same(3), 0);
         x.draft(0);
         x.draft(1);
@@ -130,7 +130,7 @@ public final class PlacesTest {
         x.clear(0);
         due.is("one less", x.same(1), 9);
         due.is("nothing where it was", x.same(0), 0);
-        Due.book(x, 0, 1, "a");
+        x.bound(0, 1, "a");
         x.unseal(0, 1);
         x.seal(1, 1, 1);
         due.is("an equal book is not the same", x.same(0), 1);

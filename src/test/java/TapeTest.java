@@ -12,7 +12,7 @@ public final class TapeTest {
     }
 
     private static void newObject() {
-        BitAlmanac x = new BitAlmanac();
+        Shelf x = new Shelf();
         due.is("new: tape(0)", x.tape(0), BitAlmanac.NONE);
         due.is("new: cut(0)", x.cut(0), 0);
         due.is("new: cut(1)", x.cut(1), BitAlmanac.BAD);
@@ -21,7 +21,7 @@ public final class TapeTest {
         }
         due.is("new: status()", x.status(), 0);
         due.is("new: witnessed()", x.witnessed(), 0);
-        BitAlmanac y = new BitAlmanac();
+        Shelf y = new Shelf();
         y.feed(1, 1);
         y.draft(0);
         due.is("another object's tape", x.tape(0), BitAlmanac.NONE);
@@ -29,7 +29,7 @@ public final class TapeTest {
     }
 
     private static void feed() {
-        BitAlmanac x = new BitAlmanac();
+        Shelf x = new Shelf();
         due.is("feed(0x010203, 2)", x.feed(0x010203L, 2), 2);
         due.is("its first byte", x.tape(0), 2);
         due.is("its second byte", x.tape(1), 3);
@@ -50,7 +50,7 @@ public final class TapeTest {
     }
 
     private static void feedTillFull() {
-        BitAlmanac x = new BitAlmanac();
+        Shelf x = new Shelf();
         for (int i = 1; i <= 124; i++) {
             due.is("feed 8 bytes, time " + i, x.feed(i, 8), 8 * i);
         }
@@ -68,7 +68,7 @@ public final class TapeTest {
     }
 
     private static void cut() {
-        BitAlmanac x = new BitAlmanac();
+        Shelf x = new Shelf();
         x.feed(0x010203L, 3);
         due.is("cut(4) of 3", x.cut(4), BitAlmanac.BAD);
         due.is("cut(-1)", x.cut(-1), BitAlmanac.BAD);
@@ -83,7 +83,7 @@ public final class TapeTest {
     }
 
     private static void tape() {
-        BitAlmanac x = new BitAlmanac();
+        Shelf x = new Shelf();
         x.feed(0xFF00L, 2);
         due.is("tape(0)", x.tape(0), 255);
         due.is("tape(1)", x.tape(1), 0);
