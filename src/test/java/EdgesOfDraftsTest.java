@@ -23,6 +23,7 @@ public final class EdgesOfDraftsTest {
         mergeBad();
         mergeMissing();
         mergeFull();
+        mergeHundreds();
         mergeNone();
         mergeBeyond();
         due.end();
@@ -319,6 +320,24 @@ public final class EdgesOfDraftsTest {
         due.is("99 less 2", x.merge(1, 3, 5, 2, 1), 99);
         x.lose(3, 0);
         due.is("MISSING comes ahead", x.merge(1, 3, 4, 0, 2), BitAlmanac.MISSING);
+    }
+
+    /** Two books of 100 names, none of them in both. */
+    private static void mergeHundreds() {
+        due.sentence(14, "FULL: above 100");
+        Shelf x = full(new Shelf(), 0, 100);
+        x.seal(0, 1, 1);
+        x.draft(0);
+        for (int i = 1; i <= 100; i++) {
+            x.fed("m" + (char) i).put(0, -i);
+        }
+        x.seal(0, 2, 2);
+        due.is("200 names", x.merge(1, 2, 3, 0, 1), BitAlmanac.FULL);
+        due.is("of both, none", x.merge(1, 2, 3, 1, 1), BitAlmanac.BAD);
+        due.is("of the later ones only", x.merge(1, 2, 3, 2, 1), 100);
+        due.is("the last of them", x.value(3, 99), 100);
+        due.is("of the earlier ones only", x.merge(2, 1, 4, 2, 1), 100);
+        due.is("the last of them", x.value(4, 99), -100);
     }
 
     private static void mergeNone() {

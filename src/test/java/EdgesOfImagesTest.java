@@ -17,6 +17,7 @@ public final class EdgesOfImagesTest {
         loadKinds();
         loadCounts();
         loadNames();
+        loadFullTape();
         loadOrder();
         loadWidths();
         loadSplit();
@@ -143,6 +144,8 @@ public final class EdgesOfImagesTest {
             x = large(kind, 1).fed("tt");
             due.is("1001 bytes", x.image(1), BitAlmanac.FULL);
             due.isText("the tape stays", x.readTape(), "tt");
+            x.lose(1, 0);
+            due.is("1001 bytes, a table lost", x.image(1), kind == 1 ? BitAlmanac.FULL : BitAlmanac.MISSING);
         }
         Shelf x = large(1, 0);
         x.fed("\u0001123456789").put(0, 128);
@@ -313,6 +316,34 @@ public final class EdgesOfImagesTest {
         good("a name of 255 and 1", 1, 1, 1, 2, 255, 1, 9, 1);
         bad("a byte 0 ahead", 1, 1, 2, 0, 'a', 9, 1);
         bad("a byte 0 behind", 1, 1, 2, 'a', 0, 9, 1);
+    }
+
+    /** A full tape whose last name begins at this byte and is said to have so many. */
+    private static int[] endingWithin(int last, int told) {
+        int[] bytes = new int[999];
+        Arrays.fill(bytes, 'n');
+        bytes[0] = 1;
+        bytes[1] = 100;
+        int at = 2;
+        for (int i = 1; at < last; i++) {
+            int left = last - at;
+            int length = left > 52 ? 24 : left > 26 ? left / 2 - 2 : left - 2;
+            bytes[at] = length;
+            bytes[at + 1] = i;
+            at += length + 2;
+        }
+        bytes[last] = told;
+        bytes[998] = 1;
+        return bytes;
+    }
+
+    private static void loadFullTape() {
+        due.sentence(39, "BAD: it is none that image() makes.");
+        for (int last = 974; last <= 997; last++) {
+            bad("a name of 24 bytes at " + last, endingWithin(last, 24));
+            bad("a name of 1 byte at " + last, endingWithin(last, 1));
+            bad("a name up to the end from " + last, endingWithin(last, 999 - last));
+        }
     }
 
     private static void loadOrder() {

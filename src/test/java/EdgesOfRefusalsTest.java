@@ -264,6 +264,13 @@ public final class EdgesOfRefusalsTest {
             refusal.answerOn(x);
             due.isText("the tape behind " + refusal.label(), x.readTape(), refusal.leavesTape() ? refusal.tape : "");
         }
+        Shelf full = new Shelf();
+        full.draft(0);
+        for (int i = 1; i <= 100; i++) {
+            full.fed("n" + (char) i).put(0, i);
+        }
+        due.is("put, FULL", full.fed("o").put(0, 1), BitAlmanac.FULL);
+        due.is("tape(0) behind that", full.tape(0), BitAlmanac.NONE);
         for (Reading act : Reading.values()) {
             for (String tape : new String[] {NAME, "b", "aaaa", "t".repeat(25), "t".repeat(1000), "\0"}) {
                 for (int p = 1; p <= 6; p++) {

@@ -18,6 +18,7 @@ public final class EdgesOfTermsTest {
         selects();
         tableA();
         tableB();
+        tablesOfBooks();
         lostTables();
         places();
         due.end();
@@ -268,6 +269,50 @@ public final class EdgesOfTermsTest {
         Shelf x = new Shelf().bound(0, 5, names);
         due.is("bits", x.about(0, 1), 192);
         due.is("tables of 192 bits", x.about(0, 7), 1 + 4);
+    }
+
+    /** Ranks and selects on both sides of each bound of a table, in a row that a book has. */
+    private static void ranksAre(boolean mended, String bits, int kind, String... names) {
+        Shelf x = null;
+        for (int bound = 0; bound <= bits.length(); bound += bound < 512 ? 64 : 256) {
+            if (x == null || x.calls() > 490) {
+                x = new Shelf().bound(0, kind, names);
+                if (mended) {
+                    x.lose(0, 0);
+                    x.lose(0, 1);
+                    x.mend(0);
+                }
+            }
+            for (int i = Math.max(0, bound - 1); i <= Math.min(bits.length(), bound + 1); i++) {
+                int rank = onesIn(bits.substring(0, i));
+                due.is("rank(" + i + ")", x.rank(0, i), rank);
+                int one = bits.indexOf('1', i);
+                due.is("select(" + rank + ")", x.select(0, rank), one >= 0 ? one : BitAlmanac.BAD);
+            }
+        }
+        due.is("bits", x.about(0, 1), bits.length());
+        due.is("rank of the end", x.rank(0, bits.length()), onesIn(bits));
+        due.is("select of the last", x.select(0, onesIn(bits) - 1), bits.lastIndexOf('1'));
+    }
+
+    private static int onesIn(String bits) {
+        return (int) bits.chars().filter(b -> b == '1').count();
+    }
+
+    private static void tablesOfBooks() {
+        due.sentence(0, "RANK(512 j); B, for each j from 0 to (BITS) / 64: RANK(64 j) less RANK(512 (j / 8)).");
+        String forked = "1".repeat(100) + "0" + "10".repeat(2300) + "0".repeat(100);
+        String paired = "1".repeat(100) + "0".repeat(101);
+        String[] eights = new String[100];
+        for (int i = 0; i < 100; i++) {
+            eights[i] = (char) (1 + 2 * i) + "1234567";
+        }
+        for (boolean mended : new boolean[] {false, true}) {
+            ranksAre(mended, forked, 2, largestNames());
+            ranksAre(mended, paired, 3, largestNames());
+            ranksAre(mended, paired, 4, largestNames());
+            ranksAre(mended, "10".repeat(100) + "0".repeat(28), 5, eights);
+        }
     }
 
     private static void lostTables() {

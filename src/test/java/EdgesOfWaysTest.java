@@ -7,6 +7,7 @@ public final class EdgesOfWaysTest {
     public static void main(String[] args) {
         witnessEdges();
         witnessNode();
+        witnessOfTheLargest();
         witnessOther();
         witnessed();
         told();
@@ -15,6 +16,7 @@ public final class EdgesOfWaysTest {
         forgeBad();
         check();
         checkEachNumber();
+        checkHowMany();
         checkOther();
         due.end();
     }
@@ -68,6 +70,26 @@ public final class EdgesOfWaysTest {
         due.is("the node", x.told(73), 24);
         due.is("23 of them", x.fed(LONGEST.substring(0, 23)).witness(0), 0);
         due.is("its numbers", x.witnessed(), 72);
+    }
+
+    /** The tree of the most nodes: 100 edges from the root, each way 24 bytes long. */
+    private static void witnessOfTheLargest() {
+        due.sentence(33, "the BIT of that EDGE, its RANK, the byte");
+        String[] names = new String[100];
+        for (int i = 0; i < 100; i++) {
+            names[i] = String.valueOf((char) (100 + i)).repeat(24);
+        }
+        Shelf x = new Shelf().bound(0, 2, names);
+        for (int k : new int[] {0, 63, 64, 99}) {
+            due.is("witness", x.fed(names[k]).witness(0), 1);
+            for (int level : new int[] {0, 1, 2, 23}) {
+                int edge = 100 * level + k;
+                // ahead of a bit are the 1s of the edges before and the 0s of the nodes before the edge's
+                due.is("the bit", x.told(3 * level), level == 0 ? k : edge + edge - 99);
+                due.is("its rank", x.told(3 * level + 1), edge);
+            }
+            due.is("the node", x.told(73), 2301 + k);
+        }
     }
 
     private static void witnessOther() {
@@ -198,6 +220,35 @@ public final class EdgesOfWaysTest {
             x.forge(i, was);
             due.is("number " + i + " as it was", x.fed("bx").check(0), 1);
         }
+    }
+
+    private static void forgeFrom(Shelf x, int from, int... numbers) {
+        for (int i = 0; i < numbers.length; i++) {
+            x.forge(from + i, numbers[i]);
+        }
+    }
+
+    /** Numbers that are right as far as they go, but too few or too many. */
+    private static void checkHowMany() {
+        due.sentence(37, "whether the WITNESS is just what witness() would make");
+        Shelf x = shelf();
+        x.fed("abc").witness(0);
+        forgeFrom(x, 3, -1, 1, 0);
+        due.isText("too many", x.readWitness(), "0 0 97 -1 1 0 8 5 99 -1 6 1");
+        due.is("check with too many", x.fed("a").check(0), 0);
+        x.fed("abc").witness(0);
+        x.fed("a").witness(0);
+        forgeFrom(x, 3, 3, 2, 98);
+        due.isText("too few", x.readWitness(), "0 0 97 3 2 98");
+        due.is("check with too few", x.fed("abc").check(0), 0);
+        x = shelf();
+        x.fed("bxy").witness(0);
+        x.fed("a").witness(0);
+        due.is("check of a shorter one behind a longer one", x.fed("a").check(0), 1);
+        x.bound(0, 2, LONGEST).fed(LONGEST).witness(0);
+        due.is("check of 24 bytes", x.fed(LONGEST).check(0), 1);
+        x.forge(74, 0);
+        due.is("check with another last number", x.fed(LONGEST).check(0), 0);
     }
 
     private static void checkOther() {
