@@ -209,12 +209,8 @@ public final class BitsTest {
         due.isText("a single name", x.bookBits(0), "10".repeat(24) + "0");
     }
 
-    /** 100 names of 24 bytes that have no beginning in common: there can be no more nodes. */
     private static void largestForkedRow() {
-        String[] names = new String[100];
-        for (int i = 0; i < 100; i++) {
-            names[i] = String.valueOf((char) (100 + i)).repeat(24);
-        }
+        String[] names = Names.ofMostNodes();
         String bits = "1".repeat(100) + "0" + "10".repeat(2300) + "0".repeat(100);
         Shelf x = new Shelf().bound(0, 2, names);
         due.is("edges", x.about(0, 2), 2400);
@@ -261,19 +257,15 @@ public final class BitsTest {
     }
 
     private static void largestSplitRow() {
-        String[] names = new String[100];
-        for (int i = 0; i < 100; i++) {
-            names[i] = (char) (1 + 2 * i) + "1234567";
-        }
         // h is 7: name i has the high part i
         String bits = "10".repeat(100) + "0".repeat(28);
-        Shelf x = new Shelf().bound(0, 5, names);
+        Shelf x = new Shelf().bound(0, 5, Names.ofEightBytes(100));
         due.isText("the row", x.bookBits(0), bits);
         due.is("low bits", x.about(0, 5), 5700);
         ranksAre(x, bits, 8, 4);
-        x = new Shelf().bound(0, 5, java.util.Arrays.copyOf(names, 63));
+        x = new Shelf().bound(0, 5, Names.ofEightBytes(63));
         due.is("63 names: h is 6", x.about(0, 1), 63 + 64);
-        x.bound(0, 5, java.util.Arrays.copyOf(names, 64));
+        x.bound(0, 5, Names.ofEightBytes(64));
         due.is("64 names: h is 7", x.about(0, 1), 64 + 128);
     }
 

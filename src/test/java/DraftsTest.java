@@ -1,7 +1,7 @@
 /** Promises 10 to 14: put, unput, seal, unseal, merge. */
 public final class DraftsTest {
     private static final Due due = new Due("DraftsTest");
-    private static final String LONGEST = "abcdefghijklmnopqrstuvwx";
+    private static final String LONGEST = Names.LONGEST;
 
     public static void main(String[] args) {
         put();

@@ -1,7 +1,7 @@
 /** Promises 15 to 25, sentence by sentence, each at its edge, in books of each kind. */
 public final class EdgesOfBooksTest {
     private static final Due due = new Due("EdgesOfBooksTest");
-    private static final String LONGEST = "abcdefghijklmnopqrstuvwx";
+    private static final String LONGEST = Names.LONGEST;
     private static final int LEAST = Integer.MIN_VALUE, MOST = Integer.MAX_VALUE;
 
     public static void main(String[] args) {

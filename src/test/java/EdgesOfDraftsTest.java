@@ -1,7 +1,7 @@
 /** Promises 10 to 14, sentence by sentence, each at its edge. */
 public final class EdgesOfDraftsTest {
     private static final Due due = new Due("EdgesOfDraftsTest");
-    private static final String LONGEST = "abcdefghijklmnopqrstuvwx";
+    private static final String LONGEST = Names.LONGEST;
 
     public static void main(String[] args) {
         putNew();

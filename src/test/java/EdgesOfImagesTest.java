@@ -3,7 +3,7 @@ import java.util.Arrays;
 /** Promises 38 and 39, sentence by sentence, each at its edge. */
 public final class EdgesOfImagesTest {
     private static final Due due = new Due("EdgesOfImagesTest");
-    private static final String LONGEST = "abcdefghijklmnopqrstuvwx";
+    private static final String LONGEST = Names.LONGEST;
 
     public static void main(String[] args) {
         image();

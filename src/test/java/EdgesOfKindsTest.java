@@ -1,7 +1,7 @@
 /** What the document tells of books and their kinds, each at its edge. */
 public final class EdgesOfKindsTest {
     private static final Due due = new Due("EdgesOfKindsTest");
-    private static final String LONGEST = "abcdefghijklmnopqrstuvwx";
+    private static final String LONGEST = Names.LONGEST;
 
     public static void main(String[] args) {
         oneNameAtLeast();
@@ -283,18 +283,10 @@ public final class EdgesOfKindsTest {
         int[] names = {1, 2, 3, 4, 7, 8, 15, 16, 31, 32, 63, 64, 100};
         int[] h = {1, 2, 2, 3, 3, 4, 4, 5, 5, 6, 6, 7, 7};
         for (int i = 0; i < names.length; i++) {
-            Shelf x = new Shelf().bound(0, 5, eights(names[i]));
+            Shelf x = new Shelf().bound(0, 5, Names.ofEightBytes(names[i]));
             due.is("bits with " + names[i] + " names", x.about(0, 1), names[i] + (1 << h[i]));
             due.is("low bits of " + names[i] + " names", x.about(0, 5), names[i] * (64 - h[i]));
         }
-    }
-
-    private static String[] eights(int n) {
-        String[] names = new String[n];
-        for (int i = 0; i < n; i++) {
-            names[i] = (char) (1 + 2 * i) + "1234567";
-        }
-        return names;
     }
 
     private static void splitRow() {
@@ -311,7 +303,7 @@ public final class EdgesOfKindsTest {
         due.isText("all with the first one", x.bookBits(0), "11110" + "0".repeat(7));
         x.bound(0, 5, "\u001faaaaaaa", "\u0020aaaaaaa", "\u00dfaaaaaaa", "\u00e0aaaaaaa");
         due.isText("at both edges", x.bookBits(0), "10" + "10" + "0000" + "10" + "10");
-        x = new Shelf().bound(0, 5, eights(100));
+        x = new Shelf().bound(0, 5, Names.ofEightBytes(100));
         due.isText("100 names", x.bookBits(0), "10".repeat(100) + "0".repeat(28));
     }
 }

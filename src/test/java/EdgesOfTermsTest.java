@@ -1,7 +1,7 @@
 /** The limits in "What it is" and "Terms", each at its edge. */
 public final class EdgesOfTermsTest {
     private static final Due due = new Due("EdgesOfTermsTest");
-    private static final String LONGEST = "abcdefghijklmnopqrstuvwx";
+    private static final String LONGEST = Names.LONGEST;
 
     public static void main(String[] args) {
         tapeBytes();
@@ -45,7 +45,7 @@ public final class EdgesOfTermsTest {
             due.is("call " + i + ", row(" + i % 10 + ", 4000)", x.row(i % 10, 4000), 4000);
         }
         due.is("calls", x.calls(), 512);
-        x = new Shelf().drafted(0, largestNames());
+        x = new Shelf().drafted(0, Names.ofMostNodes());
         for (int i = x.calls() + 1; i <= 512; i++) {
             due.is("call " + i + ", to seal 2400 edges", x.seal(0, i % 9 + 1, 2), 100);
         }
@@ -54,15 +54,6 @@ public final class EdgesOfTermsTest {
             due.is("image, behind call " + x.calls(), x.image(1), 14);
             due.is("load, behind call " + x.calls(), x.load(1), 1);
         }
-    }
-
-    /** The names of the most nodes. */
-    private static String[] largestNames() {
-        String[] names = new String[100];
-        for (int i = 0; i < 100; i++) {
-            names[i] = String.valueOf((char) (100 + i)).repeat(24);
-        }
-        return names;
     }
 
     private static int ask(Reading act, String tape) {
@@ -262,11 +253,7 @@ public final class EdgesOfTermsTest {
         tablesHave(63, 1, 2);
         tablesHave(64, 1, 3);
         // 64 names of SPLIT have 64 + 128 bits, just three times 64
-        String[] names = new String[64];
-        for (int i = 0; i < 64; i++) {
-            names[i] = (char) (i + 1) + "1234567";
-        }
-        Shelf x = new Shelf().bound(0, 5, names);
+        Shelf x = new Shelf().bound(0, 5, Names.ofEightBytes(64));
         due.is("bits", x.about(0, 1), 192);
         due.is("tables of 192 bits", x.about(0, 7), 1 + 4);
     }
@@ -303,15 +290,11 @@ public final class EdgesOfTermsTest {
         due.sentence(0, "RANK(512 j); B, for each j from 0 to (BITS) / 64: RANK(64 j) less RANK(512 (j / 8)).");
         String forked = "1".repeat(100) + "0" + "10".repeat(2300) + "0".repeat(100);
         String paired = "1".repeat(100) + "0".repeat(101);
-        String[] eights = new String[100];
-        for (int i = 0; i < 100; i++) {
-            eights[i] = (char) (1 + 2 * i) + "1234567";
-        }
         for (boolean mended : new boolean[] {false, true}) {
-            ranksAre(mended, forked, 2, largestNames());
-            ranksAre(mended, paired, 3, largestNames());
-            ranksAre(mended, paired, 4, largestNames());
-            ranksAre(mended, "10".repeat(100) + "0".repeat(28), 5, eights);
+            ranksAre(mended, forked, 2, Names.ofMostNodes());
+            ranksAre(mended, paired, 3, Names.ofMostNodes());
+            ranksAre(mended, paired, 4, Names.ofMostNodes());
+            ranksAre(mended, "10".repeat(100) + "0".repeat(28), 5, Names.ofEightBytes(100));
         }
     }
 

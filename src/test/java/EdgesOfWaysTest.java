@@ -1,7 +1,7 @@
 /** Promises 33 to 37, sentence by sentence, each at its edge. */
 public final class EdgesOfWaysTest {
     private static final Due due = new Due("EdgesOfWaysTest");
-    private static final String LONGEST = "abcdefghijklmnopqrstuvwx";
+    private static final String LONGEST = Names.LONGEST;
     private static final int LEAST = Integer.MIN_VALUE, MOST = Integer.MAX_VALUE;
 
     public static void main(String[] args) {
@@ -75,10 +75,7 @@ public final class EdgesOfWaysTest {
     /** The tree of the most nodes: 100 edges from the root, each way 24 bytes long. */
     private static void witnessOfTheLargest() {
         due.sentence(33, "the BIT of that EDGE, its RANK, the byte");
-        String[] names = new String[100];
-        for (int i = 0; i < 100; i++) {
-            names[i] = String.valueOf((char) (100 + i)).repeat(24);
-        }
+        String[] names = Names.ofMostNodes();
         Shelf x = new Shelf().bound(0, 2, names);
         for (int k : new int[] {0, 63, 64, 99}) {
             due.is("witness", x.fed(names[k]).witness(0), 1);
