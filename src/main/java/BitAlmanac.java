@@ -715,8 +715,8 @@ public final class BitAlmanac {
 
         /** The end of the names from first on that begin with this one. */
         int pastBeginningWith(int first, Name name) {
-            int past = first;
-            while (hasNumber(past) && names[past].beginsWith(name)) {
+            int past = Math.max(first, 0);
+            while (past < size && names[past].beginsWith(name)) {
                 past++;
             }
             return past;

@@ -15,12 +15,7 @@ import java.util.regex.Pattern;
 /** The public face, its constants, and those rules of LANGUAGE.md that can be seen in the text. */
 public final class FaceTest {
     private static final Due due = new Due("FaceTest");
-    private static final String FACE = "feed(long,int) cut(int) tape(int) draft(int) row(int,int) clear(int) "
-        + "share(int,int) kind(int) put(int,long) unput(int) seal(int,int,int) unseal(int,int) "
-        + "merge(int,int,int,int,int) count(int) number(int) name(int,int) value(int,int) status() below(int) "
-        + "next(int) prior(int) prefix(int,boolean) longest(int) common(int,int,int) rank(int,int) "
-        + "select(int,int) bit(int,int) flip(int,int,boolean) about(int,int) lose(int,int) mend(int) "
-        + "witness(int) witnessed() told(int) forge(int,int) check(int) image(int) load(int) same(int)";
+    private static final Set<String> FACE = faceOfDocument();
 
     public static void main(String[] args) throws IOException {
         methods();
@@ -31,6 +26,17 @@ public final class FaceTest {
         due.end();
     }
 
+    /** Each method that the document shows, as "int name(types)". */
+    private static Set<String> faceOfDocument() {
+        Set<String> face = new TreeSet<>();
+        Matcher method = Pattern.compile("public (int|long) (\\w+)\\(([^)]*)\\);").matcher(Due.documentParts()[0]);
+        while (method.find()) {
+            String types = method.group(3).replaceAll("(\\w+) \\w+", "$1").replace(", ", ",");
+            face.add(method.group(1) + " " + method.group(2) + "(" + types + ")");
+        }
+        return face;
+    }
+
     private static void methods() {
         Set<String> found = new TreeSet<>();
         for (Method m : BitAlmanac.class.getDeclaredMethods()) {
@@ -39,13 +45,12 @@ public final class FaceTest {
                 for (Class<?> type : m.getParameterTypes()) {
                     types.append(types.length() == 0 ? "" : ",").append(type);
                 }
-                found.add(m.getName() + "(" + types + ")");
-                boolean isLong = m.getName().equals("value");
-                due.isText(m.getName() + " answers", m.getReturnType().toString(), isLong ? "long" : "int");
+                found.add(m.getReturnType() + " " + m.getName() + "(" + types + ")");
                 due.is(m.getName() + " is public alone", m.getModifiers(), Modifier.PUBLIC);
             }
         }
-        due.isText("the methods", found.toString(), new TreeSet<>(List.of(FACE.split(" "))).toString());
+        due.is("methods of the document", FACE.size(), 39);
+        due.isText("the methods", found.toString(), FACE.toString());
     }
 
     private static void constants() {
@@ -76,8 +81,8 @@ public final class FaceTest {
 
     private static void namesInside() {
         Set<String> face = new TreeSet<>();
-        for (String call : FACE.split(" ")) {
-            face.add(call.substring(0, call.indexOf('(')));
+        for (String call : FACE) {
+            face.add(call.substring(call.indexOf(' ') + 1, call.indexOf('(')));
         }
         Class<?>[] inside = BitAlmanac.class.getDeclaredClasses();
         due.is("at most twelve classes", inside.length <= 11 ? 1 : 0, 1);
@@ -106,6 +111,17 @@ public final class FaceTest {
         while (used.find()) {
             due.is("the library's " + used.group() + " is listed", listed.contains(used.group()) ? 1 : 0, 1);
         }
+        loops(code);
         due.is("characters above 127", source.chars().anyMatch(c -> c > 127) ? 1 : 0, 0);
+    }
+
+    /** A loop's end can be seen from its own lines: its condition first compares a counter with a bound. */
+    private static void loops(String code) {
+        Matcher loop = Pattern.compile("\\b(while|for|do)\\b([^{]*)\\{").matcher(code);
+        Pattern counted = Pattern.compile(
+            " \\((int \\w+ = [^;]*; )?\\w+( \\+ 1)? (<|>|>=) [\\w.\\[\\] *+]+( && .*|; .*|\\) )", Pattern.DOTALL);
+        while (loop.find()) {
+            due.isTrue("a bound ends the loop" + loop.group(2), counted.matcher(loop.group(2)).matches());
+        }
     }
 }
